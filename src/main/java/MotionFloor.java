@@ -90,10 +90,9 @@ public final class MotionFloor {
     private final Assembly now = new Assembly();
     /** Where entries are done again; one for all calls, as the room for objects is small. */
     private final Assembly trial = new Assembly();
-    private final Assembly firstImage = new Assembly();
-    private final Assembly secondImage = new Assembly();
-    private boolean firstKept;
-    private boolean secondKept;
+    /** The images, null before they are kept. */
+    private Assembly firstImage;
+    private Assembly secondImage;
     private final Ledger row = new Ledger(ROW_COLUMNS, MOST_ENTRIES);
 
     public MotionFloor() {
@@ -324,11 +323,9 @@ public final class MotionFloor {
 
     public int image(int k) {
         if (k == 0) {
-            firstImage.become(now);
-            firstKept = true;
+            firstImage = imageOfNow(firstImage);
         } else if (k == 1) {
-            secondImage.become(now);
-            secondKept = true;
+            secondImage = imageOfNow(secondImage);
         } else {
             return -RANGE;
         }
@@ -339,11 +336,19 @@ public final class MotionFloor {
         if (k < 0 || k > 1) {
             return -RANGE;
         }
-        if (k == 0 ? !firstKept : !secondKept) {
+        Assembly kept = k == 0 ? firstImage : secondImage;
+        if (kept == null) {
             return -STATE;
         }
-        now.become(k == 0 ? firstImage : secondImage);
+        now.become(kept);
         return now.minutes.size;
+    }
+
+    /** What there is, in place of an older image where there is one. */
+    private Assembly imageOfNow(Assembly older) {
+        Assembly kept = older == null ? new Assembly() : older;
+        kept.become(now);
+        return kept;
     }
 
     /** Whether entry k of THE ROW names an act and has no number where that act has none. */

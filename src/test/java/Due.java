@@ -1,3 +1,6 @@
+import java.util.ArrayList;
+import java.util.List;
+
 /** Counts and prints the answers that are not due, and sets the scenes that many tests begin with. */
 final class Due {
     private static int wrong;
@@ -123,5 +126,42 @@ final class Due {
         for (int what = 0; what < facts.length; what++) {
             due("journal(" + i + ", " + what + ")", x.journal(i, what), facts[what]);
         }
+    }
+
+    /** All that can be asked of what there is, but again() and before(). */
+    static List<Integer> all(MotionFloor x) {
+        List<Integer> all = new ArrayList<>();
+        for (int what = 0; what < 12; what++) {
+            all.add(x.count(what));
+        }
+        for (int i = 0; i < 9; i++) {
+            for (int what = 0; what < 10; what++) {
+                all.add(x.pending(i, what));
+            }
+        }
+        for (int p = 0; p < 8; p++) {
+            for (int what = 0; what < 6; what++) {
+                all.add(x.desk(p, what));
+            }
+            for (int i = 0; i < 12; i++) {
+                all.add(x.lying(p, i));
+            }
+        }
+        for (int m = -1; m < 10; m++) {
+            for (int i = 0; i < 12; i++) {
+                all.add(x.text(m, i));
+            }
+        }
+        for (int s = 0; s < 12; s++) {
+            all.add(x.seat(s));
+            all.add(x.ballot(s));
+        }
+        for (int i = 0; i < x.count(8); i++) {
+            for (int what = 0; what < 6; what++) {
+                all.add(x.journal(i, what));
+                all.add(x.result(i, what));
+            }
+        }
+        return all;
     }
 }

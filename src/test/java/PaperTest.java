@@ -116,6 +116,14 @@ public final class PaperTest {
         due("text(9, 397)", x.text(9, 397), 398);
         due("text(9, 399)", x.text(9, 399), 8);
         due("text(9, 400)", x.text(9, 400), -1);
+        x.draft(1);
+        Due.fill(x, 397, 1);
+        due("word of 4 behind 397", x.word(1, 2, 3, 4), -10);
+        due("word of 3 behind 397", x.word(1, 2, 3, 0), 400);
+        x.draft(1);
+        Due.fill(x, 399, 1);
+        due("word of 2 behind 399", x.word(1, 0, 0, 1), -10);
+        due("word of 1 behind 399", x.word(1, 0, 0, 0), 400);
         x.lay(0);
         x.take(0);
         due("word of a LAID one", x.word(1, 0, 0, 0), -11);
