@@ -382,8 +382,8 @@ public final class MotionFloor {
         }
 
         void become(Text other) {
-            System.arraycopy(other.words, 0, words, 0, other.size);
-            size = other.size;
+            size = Math.max(0, Math.min(other.size, words.length));
+            System.arraycopy(other.words, 0, words, 0, size);
         }
 
         /** How many words there would be with so many in place of the SPAN. */

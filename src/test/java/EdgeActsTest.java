@@ -68,6 +68,7 @@ public final class EdgeActsTest {
     private static void paperActs() {
         draftKinds();
         draftInPlace();
+        draftInPlaceOfOutOfOrder();
         spanWithoutDraft();
         spanOfOthers();
         spanOfLaid();
@@ -625,6 +626,21 @@ public final class EdgeActsTest {
         Edge.done(x, "draft(1) in place of a TABLED row", () -> x.draft(1), 1);
         Due.due("count(7)", x.count(7), 1);
         Due.dueDesk(x, 0, 0, 0);
+    }
+
+    /** The same: a new one is not OUT OF ORDER, and knows nothing of the one that there was. */
+    private static void draftInPlaceOfOutOfOrder() {
+        MotionFloor x = Edge.mainOf(4);
+        Due.layAmend(x, 0, 2, 1, 3, 9);
+        Due.bringAmend(x, 2, 2, 3, 8);
+        Due.carry(x);
+        x.take(0);
+        Edge.done(x, "draft(2)", () -> x.draft(2), 2);
+        x.lay(0);
+        Due.dueDesk(x, 0, 2, 2, 0, 0, 0, 0);
+        x.take(0);
+        x.floor(1);
+        Edge.done(x, "move(1)", () -> x.move(1), 2);
     }
 
     // 11 span(a, b)

@@ -80,6 +80,7 @@ public final class EdgeAsksTest {
         journalOther();
         beforeEnds();
         beforeNotSoMany();
+        beforeWords();
         beforeAsItWas();
         againNone();
         againOfImage();
@@ -94,6 +95,8 @@ public final class EdgeAsksTest {
         checkRefused();
         checkNumberTooMany();
         checkOtherwise();
+        checkAnswerOfNought();
+        checkEachNumber();
         checkFirst();
         checkNewAssembly();
         checkStays();
@@ -104,6 +107,7 @@ public final class EdgeAsksTest {
     private static void images() {
         imageWhich();
         imageEntries();
+        imageOfAll();
         imageAnew();
         backWhich();
         backNotKept();
@@ -752,6 +756,43 @@ public final class EdgeAsksTest {
         Due.dueEntry(x, 2, 8, 0, 0, 0, 0, 0, -1);
         Due.dueEntry(x, 3, 5, 8, 3, 0, 0, 1, -1);
         Due.dueEntry(x, 5, 12, 1, 2, 3, 4, 4, -1);
+        int[] numbers = {0, 1, 1, 1, 1, 2, 1, 1, 0, 1, 1, 2, 4, 1, 1, 1, 1, 2, 1, 0, 1, 0, 0};
+        MotionFloor y = everyAct();
+        boolean[] had = new boolean[23];
+        for (int i = 0; i < y.count(8); i++) {
+            int act = y.journal(i, 0);
+            had[act] = true;
+            for (int what = numbers[act] + 1; what <= 4; what++) {
+                Due.due("journal(" + i + ", " + what + ") of act " + act, y.journal(i, what), 0);
+            }
+        }
+        for (int act = 1; act <= 22; act++) {
+            Due.due("act " + act + " is there", had[act] ? 1 : 0, 1);
+        }
+    }
+
+    /** A run in which each act is done, with numbers that are not 0. */
+    private static MotionFloor everyAct() {
+        MotionFloor x = Due.sitting(4);
+        x.quorum(1);
+        x.limit(5);
+        x.majority(1, 2);
+        Due.bring(x, 1, 5, 6);
+        Due.layAmend(x, 2, 2, 1, 2, 9);
+        x.take(2);
+        x.lay(3);
+        x.floor(3);
+        x.debate(3);
+        x.cede();
+        Due.bring(x, 4);
+        x.withdraw(1);
+        x.rule();
+        x.appeal(1);
+        x.vote(1, 0);
+        x.told();
+        x.gone(3);
+        x.adjourn();
+        return x;
     }
 
     /** "NONE when there is none such": no ENTRY of one that was refused. */
@@ -804,7 +845,21 @@ public final class EdgeAsksTest {
         }
     }
 
-    /** "text(m, i) as it was": its own NONE, too; what there is stays. */
+    /** "text(m, i) as it was": of all numbers of word(), wherever one is 0. */
+    private static void beforeWords() {
+        MotionFloor x = new MotionFloor();
+        x.draft(1);
+        x.word(1, 2, 3, 4);
+        x.word(5, 0, 6, 0);
+        x.word(7, 0, 0, 8);
+        for (int i = 0; i < 8; i++) {
+            Due.due("before(4, 9, " + i + ")", x.before(4, 9, i), i + 1);
+            Due.due("before(3, 9, " + i + ")", x.before(3, 9, i), i < 6 ? i + 1 : -1);
+        }
+        Edge.asked(x, "again()", () -> x.again(), -1);
+    }
+
+    /** The same: its own NONE, too; what there is stays. */
     private static void beforeAsItWas() {
         MotionFloor x = Edge.mainOf(2);
         int entries = x.count(8);
@@ -944,6 +999,32 @@ public final class EdgeAsksTest {
         dueCheck(2, 1, 2, 0, 0, 0, LEAST);
     }
 
+    /** The same: an answer of 0 is one, of an act that is done. */
+    private static void checkAnswerOfNought() {
+        dueCheck(3, 7, 1, 0, 0, 0, 0);
+        dueCheck(3, 4, 0, 0, 0, 0, 0);
+        dueCheck(3, 3, 0, 0, 0, 0, 0);
+        dueCheck(2, 1, 2, 0, 0, 0, 0);
+    }
+
+    /** The same: each number of word() is one of its own. */
+    private static void checkEachNumber() {
+        int[][] words = {{1, 2, 3, 4}, {1, 2, 0, 0}, {1, 0, 2, 0}, {1, 0, 0, 2}, {1, 0, 2, 3}, {1, 0, 0, 0}};
+        int[] answers = {4, 2, 2, 2, 3, 1};
+        for (int i = 0; i < words.length; i++) {
+            for (int wrong = -1; wrong < 4; wrong++) {
+                int[] n = words[i].clone();
+                if (wrong >= 0) {
+                    n[wrong] = 30001;
+                }
+                MotionFloor x = new MotionFloor();
+                x.tell(10, 1, 0, 0, 0, 1);
+                x.tell(12, n[0], n[1], n[2], n[3], answers[i]);
+                Edge.asked(x, "check() of word", () -> x.check(), wrong < 0 ? -1 : 1);
+            }
+        }
+    }
+
     /** "The first of its entries": entry 0, too, whatever follows. */
     private static void checkFirst() {
         MotionFloor x = new MotionFloor();
@@ -1015,6 +1096,99 @@ public final class EdgeAsksTest {
         x.there(0);
         x.there(0);
         Edge.asked(x, "image(1)", () -> x.image(1), 1);
+    }
+
+    /** "All that there is ..": of a floor that has of everything, and of one that has nothing. */
+    private static void imageOfAll() {
+        MotionFloor x = ofEverything();
+        MotionFloor y = ofEverything();
+        List<Integer> all = Due.all(x);
+        x.image(0);
+        x.seats(200);
+        List<Integer> none = Due.all(x);
+        x.image(1);
+        x.back(0);
+        Due.due("all is as it was", Due.all(x).equals(all) ? 1 : 0, 1);
+        x.back(1);
+        Due.due("nothing is as it was", Due.all(x).equals(none) ? 1 : 0, 1);
+        for (int s = 0; s < 200; s++) {
+            x.there(s);
+        }
+        x.chair(5);
+        x.majority(8, 3);
+        x.back(0);
+        Due.due("all is as it was", Due.all(x).equals(all) ? 1 : 0, 1);
+        goOn(x);
+        goOn(y);
+        Due.due("it goes on as it would have", Due.all(x).equals(Due.all(y)) ? 1 : 0, 1);
+    }
+
+    /** Settings, an ADOPTED one, all sorts on THE DESK, PENDING ones with FLOORS, SPEECHES, VOTES, CLOSED, a DRAFT. */
+    private static MotionFloor ofEverything() {
+        MotionFloor x = Due.sitting(7);
+        x.gone(6);
+        x.quorum(2);
+        x.limit(8);
+        x.majority(2, 3);
+        Due.bring(x, 1, 1, 2);
+        Due.carry(x);
+        Due.bring(x, 1, 3, 4);
+        Due.bring(x, 4);
+        Due.carry(x);
+        Due.bring(x, 1, 5, 6);
+        Due.bring(x, 5);
+        Due.carry(x);
+        Due.bring(x, 1, 7, 8);
+        Due.bring(x, 4, 9);
+        x.vote(4, 0);
+        Due.bring(x, 7);
+        Due.carry(x);
+        Due.bring(x, 1, 11, 12, 13, 14);
+        Due.layAmend(x, 3, 2, 0, 2, 15);
+        Due.layAmend(x, 4, 2, 3, 4, 16);
+        Due.layAmend(x, 5, 2, 2, 3, 17);
+        Due.bringAmend(x, 2, 1, 2, 18, 19);
+        for (int s = 0; s < 4; s++) {
+            x.vote(s, 1);
+        }
+        x.told();
+        Due.bringAmend(x, 2, 0, 1, 20, 21);
+        x.floor(3);
+        x.debate(3);
+        x.cede();
+        x.vote(5, 0);
+        Due.bring(x, 6);
+        Due.carry(x);
+        x.chair(3);
+        x.take(4);
+        x.rule();
+        x.floor(5);
+        return x;
+    }
+
+    /** What can be told by what is done alone: whose SUBJECTS they are, MAJORITIES, what is OUT OF ORDER or CLOSED. */
+    private static void goOn(MotionFloor x) {
+        x.appeal(1);
+        x.vote(2, 0);
+        Due.due("told()", x.told(), 5);
+        Edge.refused(x, "floor(2) on a CLOSED one", () -> x.floor(2), Edge.CLOSED);
+        x.vote(1, 1);
+        x.vote(2, 1);
+        x.vote(4, 1);
+        Due.due("an AMEND by 3 to 1 of 7", x.told(), 2);
+        x.floor(1);
+        Edge.done(x, "move(1) of THE DRAFT", () -> x.move(1), 2);
+        x.withdraw(1);
+        x.take(3);
+        x.floor(1);
+        Edge.refused(x, "move(1) of one OUT OF ORDER", () -> x.move(1), Edge.SPAN);
+        x.lay(3);
+        x.take(5);
+        Edge.done(x, "move(1) of one in order", () -> x.move(1), 2);
+        x.adjourn();
+        x.take(2);
+        x.floor(1);
+        Edge.done(x, "move(1) of a TABLED row", () -> x.move(1), 2);
     }
 
     /** It is kept in place of what image k was; the other one stays. */
